@@ -559,23 +559,21 @@ public final class AlmanacOfTheYearGone {
   }
 
   private static int rowRefusal(Shelf shelf) {
-    if (shelf == null) {
-      return NO_SUCH;
-    }
-    if (shelf.isEmpty()) {
-      return NOTHING_HELD;
-    }
-    return shelf.hasRow() ? FINE : OTHER_KIND;
+    return refusal(shelf, true);
   }
 
   private static int kindRefusal(Shelf shelf) {
+    return refusal(shelf, false);
+  }
+
+  private static int refusal(Shelf shelf, boolean wantsRow) {
     if (shelf == null) {
       return NO_SUCH;
     }
     if (shelf.isEmpty()) {
       return NOTHING_HELD;
     }
-    return shelf.hasRow() ? OTHER_KIND : FINE;
+    return shelf.hasRow() == wantsRow ? FINE : OTHER_KIND;
   }
 
   private int diaryRefusal(Shelf diary) {
