@@ -605,7 +605,7 @@ public final class AlmanacOfTheYearGone {
   }
 
   private static int drawBelow(int bound, int seed) {
-    int high = (seed & Integer.MAX_VALUE) / 65536;
+    int high = (seed & 0x7fffffff) / 65536;
     return bound < 1 ? 0 : high % bound;
   }
 
@@ -1124,6 +1124,9 @@ public final class AlmanacOfTheYearGone {
     private static final int MOST_CELLS = 100;
     private static final int BYTES = 0;
     private static final int SHORTS = 1;
+    private static final int LEAST_BYTE = -128;
+    private static final int LEAST_SHORT = -32768;
+    private static final int LEAST_INT = -2147483648;
     private static final int NO_SORT = -1;
     private static final int NO_KIND = -1;
 
@@ -1196,9 +1199,9 @@ public final class AlmanacOfTheYearGone {
     /** The least number of the SORT tells nothing where days or deeds are told. */
     private boolean isSkipped(int i) {
       if (sort == BYTES) {
-        return cell(i) == Byte.MIN_VALUE;
+        return cell(i) == LEAST_BYTE;
       }
-      return cell(i) == (sort == SHORTS ? Short.MIN_VALUE : Integer.MIN_VALUE);
+      return cell(i) == (sort == SHORTS ? LEAST_SHORT : LEAST_INT);
     }
 
     private boolean tellsAlways(int v) {

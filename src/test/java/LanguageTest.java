@@ -110,7 +110,7 @@ public final class LanguageTest {
     String[] forbidden = {
       "package ", "import ", "->", "::", "finally", "synchronized", "assert", "@", "double", "float", "System.out",
       "Exact(", "getMessage", "static {", "Object", "RuntimeException", "IndexOutOfBounds", "NullPointer", "Throwable",
-      "ArithmeticException", "ClassCast", "catch (Exception", "var ", "yield", "record ", "\""
+      "ArithmeticException", "ClassCast", "catch (Exception", "var ", "yield", "record ", "_VALUE", "\""
     };
     for (int i = 0; i < lines.size(); i++) {
       String line = lines.get(i);
