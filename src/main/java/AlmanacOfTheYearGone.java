@@ -1108,14 +1108,14 @@ public final class AlmanacOfTheYearGone {
       return NONE;
     }
 
+    /** A row may break off early, but has nothing to tell behind the last deed in print. */
     private int firstForged(Shelf told) {
-      int both = Math.min(told.length, printed);
-      for (int i = 0; i < both; i++) {
-        if (told.cell(i) != order[i]) {
+      for (int i = 0; i < told.length; i++) {
+        if (i >= printed || told.cell(i) != order[i]) {
           return i;
         }
       }
-      return told.length == printed ? NONE : both;
+      return NONE;
     }
   }
 

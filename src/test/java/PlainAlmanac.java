@@ -737,8 +737,8 @@ public final class PlainAlmanac {
       told.add(cell);
     }
     List<Integer> order = order();
-    for (int i = 0; i < Math.max(told.size(), order.size()); i++) {
-      if (i >= told.size() || i >= order.size() || !told.get(i).equals(order.get(i))) {
+    for (int i = 0; i < told.size(); i++) {
+      if (i >= order.size() || !told.get(i).equals(order.get(i))) {
         return i;
       }
     }

@@ -882,8 +882,11 @@ public final class PromisesTest {
     deed(0, 0, 40, 0, 0);
     deed(0, 0, 60, 0, 0);
     x.today(55);
-    int[][] rows = {{2, 1, 0}, {2, 1}, {2, 1, 0, 3}, {2, 0, 1}, {1, 0, 2}, {2, 1, 3}, {}, {2}, {-128, 1, 0}};
-    int[] places = {-4, 2, 3, 1, 0, 2, 0, 1, 0};
+    int[][] rows = {
+      {2, 1, 0}, {2, 1}, {2, 1, 0, 3}, {2, 0, 1}, {1, 0, 2}, {2, 1, 3}, {}, {2}, {-128, 1, 0},
+      {1}, {2, 0}, {2, 2}, {2, 1, 0, 0}, {2, 1, 0, -128}, {2, 1, 0, 3, 3, 3}, {0, 0, 0, 0, 0}, {10}, {2, 1, 10}
+    };
+    int[] places = {-4, -4, 3, 1, 0, 2, -4, -4, 0, 0, 1, 1, 3, 3, 3, 0, 0, 2};
     for (int i = 0; i < rows.length; i++) {
       for (int sort = 0; sort < 3; sort++) {
         lay(0, sort, rows[i]);
@@ -897,6 +900,14 @@ public final class PromisesTest {
     due("one too many", x.forged(0), 3);
     lay(0, 2, 2, 1, 0);
     due("three again", x.forged(0), -4);
+    x.today(39);
+    due("none is told yet", x.forged(0), 0);
+    lay(1, 0);
+    due("nothing of what is not told yet", x.forged(1), -4);
+    x.today(60);
+    due("nothing of all four", x.forged(1), -4);
+    due("three of all four", x.forged(0), -4);
+    x.today(55);
     lay(0, 2, 2, 1, 3);
     due("one that is ahead", x.forged(0), 2);
     due("shelf 8", x.forged(8), -1);
