@@ -19,6 +19,12 @@ public final class DiariesBoundaries extends Boundaries {
     due(0, "slips", 5, 0);
     row(5, 2, 0, 1, 0, 2, 0, 2, 0, 3, 1, 0, 1, 4);
     due(3, "slips", 5, 0);
+    row(5, 2, 0, 0, 0, 4, 0, 4);
+    due(1, "slips", 5, 0);
+    row(5, 2, 0, 0, 0, 4);
+    due(1, "slips", 5, 0);
+    row(5, 2, 0, 0, 0, 0);
+    due(0, "slips", 5, 0);
   }
 
   @Says(promise = 20, words = "how many pairs tell another DAY than that of the DEED")
@@ -145,6 +151,8 @@ public final class DiariesBoundaries extends Boundaries {
     row(5, 1, 0, 364, 0, 0, 2, 364);
     due(0, "trueDay", 5, 0);
     due(364, "trueDay", 5, 2);
+    row(5, 1, 0, 0, 0, 4, 0, 4);
+    due(4, "trueDay", 5, 0);
   }
 
   @Says(promise = 21, words = "TRUE DAYS of a DEED by the ROW in SHELF d; -4.")
@@ -374,6 +382,11 @@ public final class DiariesBoundaries extends Boundaries {
     }
     deed(4, 0, 1, 0, 0);
     due(7, "leastInIt", 10, 0);
+    deed(4, 1, 1, 0, 0);
+    due(7, "leastInIt", 3, 0);
+    due(1, "leastInIt", 3, 1);
+    due(23, "leastInIt", 4, 0);
+    due(0, "leastInIt", 4, 1);
     anew();
     deeds(10);
     due(511, "leastInIt", 9, 0);

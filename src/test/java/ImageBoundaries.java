@@ -68,6 +68,53 @@ public final class ImageBoundaries extends Boundaries {
     due(0, "deed", 2, 0);
   }
 
+  /** Nine more came since, of a KIND and on days that would show in these answers. */
+  @Says(promise = 35, words = "RESTORED all is as it was then")
+  void p35_deedsThatCameSinceAreGone() {
+    deed(0, 0, 100, 2, 8);
+    play("today", 100);
+    play("image");
+    play("today", 365);
+    for (int k = 0; k < 9; k++) {
+      deed(2, 9, 100 - k, 0, 2);
+    }
+    row(5, 0, 0, 1);
+    due(1, "restore");
+    String[] calls = {"forgotten", "only", "witnesses", "pages", "quarrel"};
+    int[] answers = {0, 0, 4, 1, -4};
+    for (int i = 0; i < calls.length; i++) {
+      due(answers[i], calls[i]);
+    }
+    int[][] ofOne = {{0, -4, -4, 0}, {1, -4, -4, 0}, {2, 0, -4, 1}, {3, -4, -4, 1}};
+    for (int[] one : ofOne) {
+      due(one[1], "looksUp", one[0], 0);
+      due(one[2], "robin", one[0]);
+      due(one[3], "knows", one[0]);
+    }
+    int[] counts = {1, 100, 10, 1, 10, 1};
+    for (int what = 0; what < 6; what++) {
+      due(counts[what], "count", what);
+    }
+    due(1, "uncut", 9, 0);
+    due(27, "uncut", 0, 1);
+    due(0, "guilty", 1);
+    due(0, "price", 1);
+    due(1, "leastInIt", 10, 0);
+    due(10, "leastInIt", 0, 1);
+    due(10, "mean", 0);
+    due(100, "gap", 0);
+    due(1, "forged", 5);
+    due(-1, "deed", 1, 0);
+    due(REFUSED, "guilt", 1);
+    due(-1, "remembers", 0, 1);
+    due(-1, "forgets", 0, 1);
+    due(-1, "sees", 1, 1);
+    due(-1, "place", 1, 0);
+    due(-1, "mayBe", 1, 0);
+    due(-1, "trueDay", 5, 1);
+    due(1, "done", 6, 5, 0, 0);
+  }
+
   @Says(promise = 35, words = "THE IMAGE is RESTORED: how many DEEDS.")
   void p35_from0To10Deeds() {
     play("image");

@@ -296,5 +296,13 @@ public final class MemoryBoundaries extends Boundaries {
     due(15, "witnesses");
     play("today", 101);
     due(0, "witnesses");
+    anew();
+    for (int k = 0; k < 10; k++) {
+      deed(0, 0, 100, k % 5, 0);
+    }
+    play("today", 110);
+    due(31, "witnesses");
+    play("today", 111);
+    due(0, "witnesses");
   }
 }

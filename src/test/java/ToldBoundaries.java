@@ -238,6 +238,16 @@ public final class ToldBoundaries extends Boundaries {
     }
   }
 
+  /** With these seeds a bound of a DRAW that is one off, or WHO among those who saw it, would show. */
+  @Says(promise = 33, words = "WHO below 5, SEEN below 32 (in this order; that of WHO aside)")
+  void p33_whoBelow5AndSeenBelow32() {
+    int[][] lost = {{39, 6}, {66, 6}, {139, 9}, {209, 6}, {353, 10}, {393, 9}};
+    for (int[] one : lost) {
+      would(one[1], "years", 1, one[0], 0);
+      would(drawn(1, one[0])[0], "years", 1, one[0], 0);
+    }
+  }
+
   @Says(promise = 33, words = "A DRAW below n: z becomes z times 1103515245 plus 12345 (an int); (z without its sign's bit over 65536, cut) modulo n.")
   void p33_seedsWrapRound() {
     for (int seed : new int[] {MIN, MIN + 1, -2, -1, 0, 1, MAX - 1, MAX}) {
