@@ -55,6 +55,10 @@ public final class DiariesBoundaries extends Boundaries {
 
   @Says(promise = 20, words = "-13 (unwhole, no such DEED, no such DAY)")
   void p20_minus13UnwholeOrNoSuchDeed() {
+    row(5, 0);
+    would(0, "slips", 5, 0);
+    row(5, 0, 0, 0);
+    refused(-13, "slips", 5, 0);
     someYear();
     row(5, 0, 0, 100, 0);
     refused(-13, "slips", 5, 0);
@@ -148,6 +152,10 @@ public final class DiariesBoundaries extends Boundaries {
     due(-4, "trueDay", 5, 2);
     row(5, 1, 0, 300, 0, 7, 0, 300, 0, 7, 0, 0);
     due(7, "trueDay", 5, 0);
+    row(5, 1, 0, 7, 0, 8, 0, 8, 0, 7);
+    due(7, "trueDay", 5, 0);
+    row(5, 1, 0, 0, 0, 364);
+    due(0, "trueDay", 5, 0);
     row(5, 1, 0, 364, 0, 0, 2, 364);
     due(0, "trueDay", 5, 0);
     due(364, "trueDay", 5, 2);
