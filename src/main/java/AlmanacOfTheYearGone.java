@@ -41,7 +41,7 @@ public final class AlmanacOfTheYearGone {
 
   public AlmanacOfTheYearGone() {
     shelves = new Shelf[SHELVES];
-    for (int d = 0; d < SHELVES; d++) {
+    for (int d = 0; d < shelves.length; d++) {
       shelves[d] = new Shelf();
     }
     almanac = new Almanac();
@@ -319,7 +319,8 @@ public final class AlmanacOfTheYearGone {
     int best = NONE;
     int most = 0;
     for (int k = 0; k < now.deedCount; k++) {
-      int lost = now.isToldOf(k, p) ? Integer.bitCount(now.watchersLost(k)) : 0;
+      Deed deed = now.toldAt(k);
+      int lost = deed != null && deed.who == p ? deed.watchersLost(now.day) : 0;
       if (lost > most) {
         most = lost;
         best = k;
@@ -777,6 +778,16 @@ public final class AlmanacOfTheYearGone {
       return day <= onDay && isKnown(p) && onDay - day <= lastingFor(p);
     }
 
+    /** How many who saw it do not REMEMBER it on a day. */
+    private int watchersLost(int onDay) {
+      return Integer.bitCount(seen & ~keepers(onDay));
+    }
+
+    /** Two who both know it, of whom just one REMEMBERS it on a day. */
+    private boolean isMatterBetween(int one, int other, int onDay) {
+      return isKnown(one) && isKnown(other) && isKept(one, onDay) != isKept(other, onDay);
+    }
+
     /** PEOPLE (bits) who REMEMBER it on a day. */
     private int keepers(int onDay) {
       return day <= onDay ? keepersAfter(onDay - day) : 0;
@@ -797,7 +808,7 @@ public final class AlmanacOfTheYearGone {
 
     private Year() {
       deeds = new Deed[MOST_DEEDS];
-      for (int k = 0; k < MOST_DEEDS; k++) {
+      for (int k = 0; k < deeds.length; k++) {
         deeds[k] = new Deed();
       }
       burdens = new int[PEOPLE];
@@ -808,15 +819,23 @@ public final class AlmanacOfTheYearGone {
     private void become(Year other) {
       deedCount = 0;
       for (int k = 0; k < other.deedCount; k++) {
-        Deed deed = other.deeds[k];
-        add(deed.kind, deed.figure, deed.day, deed.who, deed.seen);
+        Deed deed = other.deedAt(k);
+        if (deed != null) {
+          add(deed.kind, deed.figure, deed.day, deed.who, deed.seen);
+        }
       }
       day = other.day;
     }
 
     /** Null where there is no such DEED. */
     private Deed deedAt(int k) {
-      return k >= 0 && k < deedCount ? deeds[k] : null;
+      return k >= 0 && k < deedCount && k < deeds.length ? deeds[k] : null;
+    }
+
+    /** Null where there is no such DEED, and where it is not told yet. */
+    private Deed toldAt(int k) {
+      Deed deed = deedAt(k);
+      return deed != null && deed.day <= day ? deed : null;
     }
 
     /** False where there is no room. */
@@ -833,18 +852,10 @@ public final class AlmanacOfTheYearGone {
       return Math.min(day, LAST_DAY);
     }
 
-    private boolean isTold(int k) {
-      return deeds[k].day <= day;
-    }
-
-    private boolean isToldOf(int k, int p) {
-      return isTold(k) && deeds[k].who == p;
-    }
-
     private int toldCount() {
       int told = 0;
       for (int k = 0; k < deedCount; k++) {
-        told += isTold(k) ? 1 : 0;
+        told += toldAt(k) != null ? 1 : 0;
       }
       return told;
     }
@@ -852,7 +863,8 @@ public final class AlmanacOfTheYearGone {
     private int memoryOf(int p, int onDay) {
       int bits = 0;
       for (int k = 0; k < deedCount; k++) {
-        if (deeds[k].isKept(p, onDay)) {
+        Deed deed = deedAt(k);
+        if (deed != null && deed.isKept(p, onDay)) {
           bits |= 1 << k;
         }
       }
@@ -862,7 +874,8 @@ public final class AlmanacOfTheYearGone {
     private int memoryOfGroup(int group) {
       int bits = 0;
       for (int k = 0; k < deedCount; k++) {
-        if ((deeds[k].keepers(day) & group) != 0) {
+        Deed deed = toldAt(k);
+        if (deed != null && (deed.keepers(day) & group) != 0) {
           bits |= 1 << k;
         }
       }
@@ -873,37 +886,31 @@ public final class AlmanacOfTheYearGone {
     private int keptBySoMany(int many) {
       int bits = 0;
       for (int k = 0; k < deedCount; k++) {
-        if (isTold(k) && Integer.bitCount(deeds[k].keepers(day)) == many) {
+        Deed deed = toldAt(k);
+        if (deed != null && Integer.bitCount(deed.keepers(day)) == many) {
           bits |= 1 << k;
         }
       }
       return bits;
     }
 
-    /** PEOPLE (bits) who saw a deed and do not REMEMBER it. */
-    private int watchersLost(int k) {
-      return deeds[k].seen & ~deeds[k].keepers(day);
-    }
-
     private int mattersBetween(int one, int other) {
       int matters = 0;
       for (int k = 0; k < deedCount; k++) {
-        Deed deed = deeds[k];
-        boolean isCommon = deed.isKnown(one) && deed.isKnown(other);
-        if (isCommon && deed.isKept(one, day) != deed.isKept(other, day)) {
-          matters++;
-        }
+        Deed deed = toldAt(k);
+        matters += deed != null && deed.isMatterBetween(one, other, day) ? 1 : 0;
       }
       return matters;
     }
 
     private void weighBurdens() {
-      for (int p = 0; p < PEOPLE; p++) {
+      for (int p = 0; p < burdens.length; p++) {
         burdens[p] = 0;
       }
       for (int k = 0; k < deedCount; k++) {
-        if (isTold(k)) {
-          burdens[deeds[k].who] += deeds[k].burden();
+        Deed deed = toldAt(k);
+        if (deed != null && isBelow(deed.who, burdens.length)) {
+          burdens[deed.who] += deed.burden();
         }
       }
     }
@@ -911,7 +918,7 @@ public final class AlmanacOfTheYearGone {
     /** PEOPLE (bits) whose GUILT, as it was weighed last, is so much or more. */
     private int burdenedWith(int least) {
       int bits = 0;
-      for (int p = 0; p < PEOPLE; p++) {
+      for (int p = 0; p < burdens.length; p++) {
         if (burdens[p] >= least) {
           bits |= 1 << p;
         }
@@ -923,8 +930,9 @@ public final class AlmanacOfTheYearGone {
     private int sizesBut(int left) {
       int sizes = 0;
       for (int k = 0; k < deedCount; k++) {
-        if (isTold(k) && (left >> k & 1) == 0) {
-          sizes += deeds[k].size();
+        Deed deed = toldAt(k);
+        if (deed != null && (left >> k & 1) == 0) {
+          sizes += deed.size();
         }
       }
       return sizes;
@@ -935,8 +943,9 @@ public final class AlmanacOfTheYearGone {
       int bit = 0;
       int greatest = 0;
       for (int k = 0; k < deedCount; k++) {
-        if (isTold(k) && (left >> k & 1) == 0 && deeds[k].size() > greatest) {
-          greatest = deeds[k].size();
+        Deed deed = toldAt(k);
+        if (deed != null && (left >> k & 1) == 0 && deed.size() > greatest) {
+          greatest = deed.size();
           bit = 1 << k;
         }
       }
@@ -946,7 +955,8 @@ public final class AlmanacOfTheYearGone {
     private int allLasting() {
       int days = 0;
       for (int k = 0; k < deedCount; k++) {
-        days += deeds[k].lasting;
+        Deed deed = deedAt(k);
+        days += deed != null ? deed.lasting : 0;
       }
       return days;
     }
@@ -954,7 +964,8 @@ public final class AlmanacOfTheYearGone {
     private int allSeen() {
       int all = 0;
       for (int k = 0; k < deedCount; k++) {
-        all += Integer.bitCount(deeds[k].seen);
+        Deed deed = deedAt(k);
+        all += deed != null ? Integer.bitCount(deed.seen) : 0;
       }
       return all;
     }
@@ -981,17 +992,21 @@ public final class AlmanacOfTheYearGone {
     private void print() {
       printed = 0;
       for (int k = 0; k < year.deedCount; k++) {
-        if (year.isTold(k)) {
-          setIn(k);
+        Deed deed = year.toldAt(k);
+        if (deed != null) {
+          setIn(k, deed);
         }
       }
       breakPages();
     }
 
     /** Deeds come by their numbers, so one is set ahead of those alone that it must precede. */
-    private void setIn(int k) {
+    private void setIn(int k, Deed deed) {
+      if (printed >= order.length) {
+        return;
+      }
       int at = printed;
-      while (at > 0 && goesAhead(year.deeds[k], deedIn(at - 1))) {
+      while (at > 0 && goesAhead(deed, deedIn(at - 1))) {
         order[at] = order[at - 1];
         at--;
       }
@@ -1000,14 +1015,18 @@ public final class AlmanacOfTheYearGone {
     }
 
     private static boolean goesAhead(Deed one, Deed other) {
+      if (one == null || other == null) {
+        return false;
+      }
       return one.day < other.day || one.day == other.day && one.size() > other.size();
     }
 
     private void breakPages() {
       pageCount = 0;
       int points = 0;
-      for (int i = 0; i < printed; i++) {
-        int size = deedIn(i).size();
+      for (int i = 0; i < printed && i < pageAt.length; i++) {
+        Deed deed = deedIn(i);
+        int size = deed != null ? deed.size() : 0;
         if (i == 0 || points + size > PAGE_POINTS) {
           pageCount++;
           points = 0;
@@ -1017,13 +1036,24 @@ public final class AlmanacOfTheYearGone {
       }
     }
 
+    /** The number of the deed at a place; NONE where there is no such place. */
+    private int numberIn(int at) {
+      return at >= 0 && at < printed && at < order.length ? order[at] : NONE;
+    }
+
+    /** The page of a place; NONE where there is no such place. */
+    private int pageIn(int at) {
+      return at >= 0 && at < printed && at < pageAt.length ? pageAt[at] : NONE;
+    }
+
+    /** Null where there is no such place. */
     private Deed deedIn(int at) {
-      return year.deeds[order[at]];
+      return year.deedAt(numberIn(at));
     }
 
     private int placeOf(int k) {
       for (int i = 0; i < printed; i++) {
-        if (order[i] == k) {
+        if (numberIn(i) == k) {
           return i;
         }
       }
@@ -1031,8 +1061,7 @@ public final class AlmanacOfTheYearGone {
     }
 
     private int pageOf(int k) {
-      int at = placeOf(k);
-      return at < 0 ? NONE : pageAt[at];
+      return pageIn(placeOf(k));
     }
 
     /** The number of the DEED of one with the greatest SIZE, of several the first told. */
@@ -1041,9 +1070,9 @@ public final class AlmanacOfTheYearGone {
       int greatest = -1;
       for (int i = 0; i < printed; i++) {
         Deed deed = deedIn(i);
-        if (deed.who == p && deed.size() > greatest) {
+        if (deed != null && deed.who == p && deed.size() > greatest) {
           greatest = deed.size();
-          best = order[i];
+          best = numberIn(i);
         }
       }
       return best;
@@ -1053,9 +1082,9 @@ public final class AlmanacOfTheYearGone {
     private int newsFor(int p, int page) {
       int bits = 0;
       for (int i = 0; i < printed; i++) {
-        Deed deed = deedIn(i);
-        if (pageAt[i] == page && deed.isKnown(p) && !deed.isKept(p, year.day)) {
-          bits |= 1 << order[i];
+        Deed deed = pageIn(i) == page ? deedIn(i) : null;
+        if (deed != null && deed.isKnown(p) && !deed.isKept(p, year.day)) {
+          bits |= 1 << numberIn(i);
         }
       }
       return bits;
@@ -1064,8 +1093,8 @@ public final class AlmanacOfTheYearGone {
     private int deedsFromPage(int first) {
       int bits = 0;
       for (int i = 0; i < printed; i++) {
-        if (pageAt[i] >= first) {
-          bits |= 1 << order[i];
+        if (pageIn(i) >= first) {
+          bits |= 1 << numberIn(i);
         }
       }
       return bits;
@@ -1074,16 +1103,16 @@ public final class AlmanacOfTheYearGone {
     private int doersAheadOfPage(int first) {
       int bits = 0;
       for (int i = 0; i < printed; i++) {
-        if (pageAt[i] < first) {
-          bits |= 1 << deedIn(i).who;
-        }
+        Deed deed = pageIn(i) < first ? deedIn(i) : null;
+        bits |= deed != null ? 1 << deed.who : 0;
       }
       return bits;
     }
 
     /** The day of the deed at a place; behind the last of them, the day behind the last day. */
     private int dayAt(int at) {
-      return at < printed ? deedIn(at).day : year.lastDay() + 1;
+      Deed deed = deedIn(at);
+      return deed != null ? deed.day : year.lastDay() + 1;
     }
 
     private int longestGap() {
@@ -1111,7 +1140,7 @@ public final class AlmanacOfTheYearGone {
     /** A row may break off early, but has nothing to tell behind the last deed in print. */
     private int firstForged(Shelf told) {
       for (int i = 0; i < told.length; i++) {
-        if (i >= printed || told.cell(i) != order[i]) {
+        if (i >= printed || told.cell(i) != numberIn(i)) {
           return i;
         }
       }
@@ -1271,12 +1300,11 @@ public final class AlmanacOfTheYearGone {
 
     /** Tells a year all statements up to the first that is not as it must be: its place; -1. */
     private static int firstWrongStatement(Shelf text, Year year) {
-      int step = 1;
-      for (int at = 0; at < text.length; at += step) {
-        if (!isTaken(text, at, year)) {
+      for (int at = 0; at < text.length; at++) {
+        boolean isStart = at == 0 || text.cell(at - 1) == ';';
+        if (isStart && !isTaken(text, at, year)) {
           return at;
         }
-        step = digitsBehind(text.cell(at)) + 2;
       }
       return -1;
     }

@@ -21,6 +21,9 @@ public final class LanguageTest {
   private static final Pattern FACE_LINE = Pattern.compile(" {4}public (int|long) (\\w+)\\(([^)]*)\\)(.*);");
   private static final Pattern METHOD = Pattern.compile("^( +)(?:public |private |static |final )*(\\w+ )?(\\w+)\\(([^)]*)\\)[^;]*\\{$");
 
+  private static final Pattern INDEX = Pattern.compile("(?<!new )\\b(\\w+)\\[(?!\\])");
+  private static final Pattern LOOP = Pattern.compile("\\bfor \\([^;]*;[^;]*; (.*)\\) \\{$");
+
   private static int wrong = 0;
 
   private static void must(boolean holds, String what) {
@@ -39,6 +42,7 @@ public final class LanguageTest {
     List<String> lines = Files.readAllLines(SOURCE);
     theWords(lines);
     theMethods(lines);
+    theLoops(lines);
     System.out.println(wrong == 0 ? "the class keeps to its face and language" : wrong + " faults");
     if (wrong != 0) {
       System.exit(1);
@@ -140,7 +144,33 @@ public final class LanguageTest {
         end++;
       }
       must(end - i < 60, head.group(3) + " is long");
+      theIndexes(lines, i, end);
     }
     must(seen > 120, "methods were found: " + seen);
+  }
+
+  /** An index is looked at where it is used: the method names the length of the row, too. */
+  private static void theIndexes(List<String> lines, int from, int to) {
+    String body = String.join("\n", lines.subList(from, to));
+    for (int i = from; i < to; i++) {
+      Matcher use = INDEX.matcher(lines.get(i));
+      while (use.find()) {
+        boolean isLookedAt = body.contains(use.group(1) + ".length");
+        must(isLookedAt, "line " + (i + 1) + " uses an index of " + use.group(1) + " that it does not look at");
+      }
+    }
+  }
+
+  /** A for ends by its own line: its counter goes on by a number that is written there. */
+  private static void theLoops(List<String> lines) {
+    int seen = 0;
+    for (int i = 0; i < lines.size(); i++) {
+      Matcher loop = LOOP.matcher(lines.get(i));
+      if (loop.find()) {
+        seen++;
+        must(loop.group(1).matches("\\w+(?:\\+\\+|--| \\+= \\d+)"), "line " + (i + 1) + " goes on by " + loop.group(1));
+      }
+    }
+    must(seen > 40, "loops were found: " + seen);
   }
 }
