@@ -910,6 +910,12 @@ public final class PromisesTest {
     x.today(55);
     lay(0, 2, 2, 1, 3);
     due("one that is ahead", x.forged(0), 2);
+    for (int below = -20; below < 0; below++) {
+      lay(0, 2, 2, 1, 0, below);
+      due("below 0 behind the last", x.forged(0), 3);
+      lay(0, 2, 2, below, 0);
+      due("below 0 in between", x.forged(0), 1);
+    }
     due("shelf 8", x.forged(8), -1);
     due("shelf -1", x.forged(-1), -1);
     fillShelves();
